@@ -323,6 +323,21 @@ final class BatchesTest {
         early.run(3);
         Checks.equal("a parent can have the higher number", early.parent(0, 0), 2);
         Checks.equal("both are found, and itself is gone", early.recall(2), 2);
+        Millrace down = Shop.withBought();
+        for (int kind = 1; kind < 4; kind++) {
+            down.addLine(kind, kind - 1, 1, -1);
+            down.addOperation(kind, 0, 0, 1);
+        }
+        Shop.addMachine(down, 1);
+        Shop.addPerson(down, 1);
+        for (int kind = 3; kind > 0; kind--) {
+            down.make(kind, 1, 0);
+        }
+        down.buy(0, 2);
+        down.run(4);
+        Checks.equal("parents of higher numbers, all the way down", down.parent(0, 0), 1);
+        Checks.equal("what is left of it, and what came of it", down.recall(3), 2);
+        Checks.equal("down to the lowest number", down.batch(0, 3), 5);
         Millrace coming = new Millrace();
         coming.setBought(0, 1, 9);
         coming.buy(0, 1);
@@ -387,6 +402,16 @@ final class BatchesTest {
         some.recall(0);
         Checks.equal("the first keeps all", some.told(0, 3), 3);
         Checks.equal("the last loses what is too much", some.told(1, 3), 3);
+        some.buy(0, 1);
+        some.run(1);
+        some.promise(1);
+        Checks.equal("7 pieces, all promised", some.store(0, 1), 7);
+        some.recall(2);
+        Checks.equal("1 is too much", some.told(1, 3), 3);
+        some.recall(1);
+        Checks.equal("the last order loses all", some.told(1, 3), 0);
+        Checks.equal("the first one, too", some.told(0, 3), 0);
+        Checks.equal("nothing is promised", some.store(0, 1), 0);
     }
 
     private static void recallRefuses() {

@@ -9,6 +9,7 @@ final class FaultsTest {
         aFaultIsFoundTwoOperationsLater();
         aFaultIsFoundAtTheLastOperation();
         ofSeveralFaultsTheFirstCounts();
+        whatIsDoneAgainCanBeDoneWell();
         whatGoesBackNeedsRoom();
         whatWasSentBackTakesNoPartsAgain();
         splitAndJoinedBatchesKeepFaults();
@@ -157,6 +158,29 @@ final class FaultsTest {
         stands("the hour 13, a new fault at 1, none is found at 1", m, 2, 2, 1);
         m.run(3);
         stands("the hour 16, found at 2, scrapped", m, 5, 2, 1);
+    }
+
+    /** A second machine, which does the class 0 well, takes over while the first one lacks what its repair takes. */
+    private static void whatIsDoneAgainCanBeDoneWell() {
+        Millrace one = Shop.sentBack();
+        Shop.addMachine(one, 1);
+        one.run(5);
+        stands("one operation, done again", one, 3, 1, 1);
+        Millrace m = new Millrace();
+        m.setBought(11, 1, 0);
+        m.addOperation(0, 1, 1, 1);
+        m.addOperation(0, 0, 0, 3);
+        m.addOperation(0, 0, 0, 3);
+        m.addMachine(1, 0, 0, ALWAYS, 1, 11);
+        Shop.addMachine(m, 2);
+        Shop.addPerson(m, 1);
+        m.make(0, 1, 0);
+        m.buy(11, 1);
+        m.run(9);
+        stands("faults at 1 and 2, back to 1", m, 1, 1, 1);
+        Shop.addMachine(m, 1);
+        m.run(10);
+        stands("both operations, done again", m, 3, 3, 1);
     }
 
     private static void whatGoesBackNeedsRoom() {

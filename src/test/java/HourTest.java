@@ -6,6 +6,7 @@ final class HourTest {
         runRefuses();
         batchesComeWhenThereIsRoom();
         anHourCostsWearsAndLeadsOn();
+        aRouteHasUpToFourOperations();
         aFullQueueBlocks();
         aFullStoreBlocks();
         whatLeavesMakesRoomForTheNextMachine();
@@ -121,6 +122,24 @@ final class HourTest {
         Checks.equal("and an hour of the other two", m.batch(0, 2), 24);
         Checks.equal("worked", m.ledger(1), 24);
         Checks.equal("pieces", m.store(0, 0), 2);
+    }
+
+    private static void aRouteHasUpToFourOperations() {
+        Millrace m = new Millrace();
+        for (int work = 0; work < 4; work++) {
+            m.addOperation(0, work, work, 1);
+        }
+        Shop.addMachine(m, 15);
+        Shop.addPerson(m, 1);
+        m.make(0, 1, 0);
+        for (int operation = 0; operation < 4; operation++) {
+            m.run(1);
+            Checks.equal("the operation that is done", m.batch(0, 4), operation);
+        }
+        m.run(1);
+        Checks.equal("done with all", m.batch(0, 4), 4);
+        Checks.equal("in store", m.batch(0, 3), 3);
+        Checks.equal("it does not wait", m.why(0, 0), 1);
     }
 
     private static void aFullQueueBlocks() {
