@@ -31,6 +31,14 @@ final class Calls {
         }
     }
 
+    static String text(String name, int... arguments) {
+        StringBuilder text = new StringBuilder(name).append('(');
+        for (int i = 0; i < arguments.length; i++) {
+            text.append(i == 0 ? "" : ", ").append(arguments[i]);
+        }
+        return text.append(')').toString();
+    }
+
     private static Map<String, Method> methodsOf(Class<?> type) {
         Map<String, Method> methods = new HashMap<>();
         for (Method method : type.getDeclaredMethods()) {

@@ -25,11 +25,7 @@ final class RandomCalls {
     }
 
     String text() {
-        StringBuilder text = new StringBuilder(name).append('(');
-        for (int i = 0; i < arguments.length; i++) {
-            text.append(i == 0 ? "" : ", ").append(arguments[i]);
-        }
-        return text.append(')').toString();
+        return Calls.text(name, arguments);
     }
 
     private void call(String called, int... with) {

@@ -59,6 +59,31 @@ final class Shop {
         return batch;
     }
 
+    /** The batches 0 to 6 of 4 pieces each, of which each is what its number says: coming, waiting, and so on. */
+    static Millrace everyState() {
+        Millrace factory = new Millrace();
+        factory.setBought(0, 3, 0);
+        factory.setBought(1, 7, 0);
+        factory.setBought(2, 5, 30);
+        factory.addOperation(3, 0, 0, 9);
+        factory.addOperation(4, 1, 1, 9);
+        addMachine(factory, 3);
+        factory.addPerson(1, 0, 24);
+        factory.setLevel(0, 1, 1);
+        factory.buy(2, 4);
+        factory.make(3, 4, 4);
+        factory.make(4, 4, 5);
+        factory.buy(0, 4);
+        factory.buy(1, 4);
+        factory.make(3, 4, 6);
+        factory.recall(5);
+        factory.run(1);
+        factory.order(1, 4, 0);
+        factory.promise(0);
+        factory.ship(0);
+        return factory;
+    }
+
     static void pass(Millrace factory, int hours) {
         for (int left = hours; left > 0; left -= 50) {
             factory.run(Math.min(left, 50));

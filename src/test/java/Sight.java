@@ -6,6 +6,7 @@ final class Sight {
     private static final int MACHINES = 6;
     private static final int PEOPLE = 6;
     private static final int ORDERS = 10;
+    private static final int MOST = 60;
     private static final String NONE = "-1";
     private static final String NO_SUCH = "IndexOutOfBoundsException";
 
@@ -39,10 +40,10 @@ final class Sight {
         }
     }
 
-    /** Adds what stands at each place of a list, up to its end. */
+    /** Adds what stands at each place of a list, up to its end, which a broken factory might not have. */
     private void addPlaces(String name, int of) {
         text.append(' ').append(name);
-        for (int place = 0; !Calls.ask(factory, name, of, place).equals(NONE); place++) {
+        for (int place = 0; place <= MOST && !Calls.ask(factory, name, of, place).equals(NONE); place++) {
             add(name, of, place);
         }
     }
