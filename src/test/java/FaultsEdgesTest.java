@@ -227,7 +227,10 @@ final class FaultsEdgesTest {
         bad.setLevel(1, 1, 3);
         bad.setLevel(0, 0, 1);
         bad.make(1, 1, 9);
+        Checks.equal("what was sent back waits, as the other one", bad.queue(0) * 10 + bad.queue(1), 11);
+        Checks.equal("for the operation of the fault", bad.queued(0, 0), 0);
         bad.run(1);
+        Checks.equal("neither waits", bad.queue(0) * 10 + bad.queue(1), 0);
         Checks.equal("another batch is on the machine that does the second one well", bad.machine(1, 0), 1);
         Checks.equal("the first one is done again, and the second", lastOperation(bad, 1), 1);
         Checks.equal("the fault of the second one is its second", bad.batch(0, 3), 5);

@@ -7,6 +7,7 @@ final class OrdersEdgesTest {
         anOrderIsShippedWithAllItsPieces();
         anOrderIsShippedOnce();
         shippingTakesByRisingBatches();
+        shippingTakesOnlyFromTheStore();
         shippingTakesAllOrPartOfABatch();
         shippingMakesRoom();
         anOrderIsLateBehindItsDueHour();
@@ -129,6 +130,39 @@ final class OrdersEdgesTest {
         Checks.equal("the first one is taken", m.parent(2, 0), 0);
         Checks.equal("and no other", m.parent(2, 1), -1);
         Checks.equal("the second one stays", m.batch(1, 1), 2);
+    }
+
+    /** "from batches in store": not from lower ones that come, wait, are on a machine, or were scrapped. */
+    private static void shippingTakesOnlyFromTheStore() {
+        Millrace m = new Millrace();
+        m.setBought(0, 10, 0);
+        m.addOperation(1, 0, 0, 9);
+        m.addOperation(2, 1, 1, 9);
+        Shop.addMachine(m, 3);
+        Shop.addPerson(m, 1);
+        m.setLevel(0, 1, 0);
+        m.buy(0, 3);
+        m.late(0, 30);
+        m.buy(0, 3);
+        m.recall(1);
+        m.make(1, 3, 0);
+        m.make(2, 3, 0);
+        m.buy(0, 3);
+        m.run(1);
+        m.order(0, 2, 0);
+        m.order(1, 1, 0);
+        m.order(2, 1, 0);
+        Checks.equal("of what is in store", m.promise(0), 2);
+        Checks.equal("not of what is on a machine", m.promise(1), 0);
+        Checks.equal("not of what waits", m.promise(2), 0);
+        m.ship(0);
+        int[] left = {3, 3, 3, 3, 1};
+        for (int batch = 0; batch < left.length; batch++) {
+            Checks.equal("pieces of the batch " + batch, m.batch(batch, 1), left[batch]);
+        }
+        Checks.equal("its parent", m.parent(5, 0), 4);
+        Checks.equal("its only one", m.parent(5, 1), -1);
+        Checks.equal("its cost", m.batch(5, 2), 20);
     }
 
     /** "from each what it has": of batches of 2, 3 and 1 pieces. */

@@ -11,6 +11,7 @@ final class RecallEdgesTest {
         promisesAreKeptWhileThereIsEnough();
         theHighestOrdersLoseFirst();
         otherOrdersLoseNothing();
+        ordersOfWhatStemsFromItLose();
         Checks.end("RecallEdgesTest");
     }
 
@@ -241,5 +242,23 @@ final class RecallEdgesTest {
         Checks.equal("shipped", m.told(1, 3), 2);
         Checks.equal("of another kind", m.told(2, 3), 3);
         Checks.equal("promised of the kinds", m.store(0, 1) * 10 + m.store(1, 1), 3);
+    }
+
+    /** What is scrapped behind the recalled one was promised, too: of its kind there is nothing left. */
+    private static void ordersOfWhatStemsFromItLose() {
+        Millrace m = twiceShipped();
+        m.order(1, 1, 0);
+        m.order(0, 9, 0);
+        Checks.equal("promised of what is left of the made ones", m.promise(2), 1);
+        Checks.equal("promised of what is left of the bought ones", m.promise(3), 9);
+        m.recall(3);
+        Checks.equal("the made one is scrapped", m.told(2, 3), 0);
+        Checks.equal("the bought ones are not", m.told(3, 3), 9);
+        m = twiceShipped();
+        m.order(1, 1, 0);
+        m.promise(2);
+        Checks.equal("the bought one and the piece made of it", m.recall(0), 202);
+        Checks.equal("of another kind than the recalled one", m.told(2, 3), 0);
+        Checks.equal("promised of it", m.store(1, 1), 0);
     }
 }

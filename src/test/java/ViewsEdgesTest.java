@@ -89,8 +89,18 @@ final class ViewsEdgesTest {
             Checks.equal("itself", m.origin(batch, 0), batch);
             Checks.equal("and that is all", m.origin(batch, 1), -1);
         }
-        m.recall(4);
-        Checks.equal("what was recalled is an origin all the same", m.origin(0, 0), 4);
+        Checks.equal("what was used up", m.batch(4, 3), 4);
+        Millrace left = Shop.working(1);
+        left.addLine(2, 0, 1, -1);
+        left.addOperation(2, 0, 0, 1);
+        left.buy(0, 3);
+        left.make(2, 1, 0);
+        left.run(2);
+        left.recall(0);
+        Checks.equal("what was scrapped", left.batch(0, 3), 5);
+        Checks.equal("is an origin all the same", left.origin(1, 0), 0);
+        Checks.equal("and its own", left.origin(0, 0), 0);
+        Checks.equal("and a parent", left.parent(1, 0), 0);
     }
 
     /** What comes in by several lines, and by parents that have the same parent, is told once. */
