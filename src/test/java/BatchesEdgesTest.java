@@ -12,6 +12,7 @@ final class BatchesEdgesTest {
         theLastPieceTakesTheRestOfTheCost();
         aBatchIsGoneWhenNoPieceIsLeft();
         onlyWhatWaitsIsSplit();
+        theQueueInWhichItWaitsNeedsRoom();
         theOnlyParentOfASplitOffIsTheOtherOne();
         onlyWhatWaitsIsJoined();
         onlyTheSameKindAndOperationIsJoined();
@@ -199,6 +200,28 @@ final class BatchesEdgesTest {
         m.rank(1, 4, false);
         Checks.equal("it was frozen, and is no more", m.split(1, 1), 7);
         Checks.equal("nor is the new one", m.batch(7, 6), 0);
+    }
+
+    /** A batch that waits for its second operation, of class 1, beside none of class 0; the queues of these sizes. */
+    private static Millrace waitingForClassOne(int zero, int one) {
+        Millrace m = new Millrace();
+        m.addOperation(0, 0, 0, 1);
+        m.addOperation(0, 1, 0, 1);
+        Shop.addMachine(m, 1);
+        Shop.addPerson(m, 1);
+        m.make(0, 4, 0);
+        m.run(2);
+        m.setQueue(0, zero);
+        m.setQueue(1, one);
+        return m;
+    }
+
+    /** "its queue has no room": that of the operation for which it waits. */
+    private static void theQueueInWhichItWaitsNeedsRoom() {
+        Twins full = new Twins(() -> waitingForClassOne(9, 1));
+        full.refuses(Twins.STATE, "split", 0, 1);
+        Twins room = new Twins(() -> waitingForClassOne(0, 2));
+        Checks.equal("both wait for class 1", room.takes("split", 0, 1).queue(1), 2);
     }
 
     /** "a new batch ... whose only parent is that": not what the other one has for parents. */

@@ -18,6 +18,7 @@ final class FaultsEdgesTest {
         aRepairTakesOnePieceOnce();
         theLowestMachineGetsThePiece();
         aRepairTakesWhatIsDoneInTheSameHour();
+        aRepairComesAheadOfWhatBegins();
         aRepairTakesTheShareOfAPiece();
         Checks.end("FaultsEdgesTest");
     }
@@ -414,6 +415,31 @@ final class FaultsEdgesTest {
         Checks.equal("done by the second machine", m.batch(1, 3), 4);
         Checks.equal("taken by the repair of the first", m.machine(0, 5), 2);
         Checks.equal("nothing is left of it", m.store(1, 0), 0);
+    }
+
+    /** All repairs come ahead of all that begins, though on a machine of a lower number: 1 piece for both. */
+    private static void aRepairComesAheadOfWhatBegins() {
+        Millrace m = Shop.withBought();
+        m.addLine(1, 0, 1, -1);
+        m.addOperation(1, 0, 0, 1);
+        m.addOperation(2, 1, 0, 9);
+        Shop.addMachine(m, 1);
+        m.addMachine(2, 0, 0, 1, 3, 0);
+        Shop.addPerson(m, 1);
+        Shop.addPerson(m, 1);
+        m.make(2, 1, 0);
+        m.run(2);
+        m.recall(0);
+        Checks.equal("the second machine needs a repair", m.machine(1, 5), 1);
+        m.make(1, 1, 9);
+        m.buy(0, 1);
+        m.run(1);
+        Checks.equal("it has the piece", m.machine(1, 5), 2);
+        Checks.equal("the first machine takes nothing", m.machine(0, 0), -1);
+        Checks.equal("as parts are lacking", m.why(1, 0), 6);
+        m.buy(0, 1);
+        m.run(1);
+        Checks.equal("it takes the next piece", m.machine(0, 0), 1);
     }
 
     /** 3 pieces that cost 10: what the repair takes cost 3, rounded down, and 7 stay. */

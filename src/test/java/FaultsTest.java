@@ -12,6 +12,7 @@ final class FaultsTest {
         whatIsDoneAgainCanBeDoneWell();
         whatGoesBackNeedsRoom();
         whatWasSentBackTakesNoPartsAgain();
+        norDoesWhatIsJoinedWithIt();
         splitAndJoinedBatchesKeepFaults();
         aJoinedBatchWasSentBackIfOneWas();
         aWornMachineIsRepaired();
@@ -116,6 +117,7 @@ final class FaultsTest {
         stands("the hour 11, scrapped", m, 5, 2, 1);
         Checks.equal("it cost twice that", m.ledger(3), 22);
         Checks.equal("nothing is in the factory", m.ledger(2), 0);
+        Checks.equal("all of it was worked", m.ledger(1), 22);
         Checks.equal("the machine is free", m.machine(1, 0), -1);
         Checks.equal("the person is free", m.machineOf(1), -1);
         Checks.equal("its pieces stay", m.batch(0, 1), 2);
@@ -211,6 +213,9 @@ final class FaultsTest {
         m.make(1, 2, 0);
         m.run(4);
         Checks.equal("it was sent back", m.batch(1, 7), 1);
+        Checks.equal("with its pieces", m.batch(1, 1), 2);
+        Checks.equal("with its cost", m.batch(1, 2), 20);
+        Checks.equal("with its parent", m.parent(1, 0), 0);
         Checks.equal("no parts are there", m.store(0, 0), 0);
         m.run(1);
         Checks.equal("it begins all the same", m.batch(1, 3), 2);
@@ -219,6 +224,26 @@ final class FaultsTest {
         Checks.equal("nothing more is taken", m.store(0, 0), 2);
         Checks.equal("it is scrapped", m.batch(1, 3), 5);
         Checks.equal("with the cost of 2 parts", m.batch(1, 2), 20);
+    }
+
+    /** "unless it was sent back", "and was sent back if one was": though the other of the two took no parts. */
+    private static void norDoesWhatIsJoinedWithIt() {
+        Millrace m = Shop.withBought();
+        m.addLine(1, 0, 1, -1);
+        m.addOperation(1, 0, 0, 3);
+        m.addMachine(1, 0, 0, ALWAYS, 1, -1);
+        Shop.addPerson(m, 1);
+        m.buy(0, 2);
+        m.make(1, 2, 0);
+        m.run(4);
+        m.make(1, 5, 0);
+        Checks.equal("joined", m.join(2, 1), 3);
+        m.buy(0, 9);
+        m.run(1);
+        Checks.equal("begun", m.batch(3, 3), 2);
+        Checks.equal("none of the 9 pieces is taken", m.store(0, 0), 9);
+        Checks.equal("the two are its parents", m.batch(3, 8), 2);
+        Checks.equal("its cost", m.batch(3, 2), 20);
     }
 
     private static void splitAndJoinedBatchesKeepFaults() {
@@ -231,6 +256,9 @@ final class FaultsTest {
         m.rank(0, 0, true);
         m.run(2);
         Checks.equal("the fault is found in what was split off", m.batch(1, 7), 1);
+        m.rank(0, 0, false);
+        m.run(2);
+        Checks.equal("and in the rest", m.batch(0, 7), 1);
         Millrace joined = route(0, 1);
         joined.setLevel(1, 1, 0);
         joined.addMachine(1, 0, 0, 50, 1, -1);

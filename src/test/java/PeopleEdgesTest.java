@@ -16,6 +16,7 @@ final class PeopleEdgesTest {
         theGreatestLevelAndThenTheLowestNumber();
         theHoursAreAtLeastOne();
         settingUpForAnotherKindOrNone();
+        noSettingUpForAnotherOperation();
         costsAndWagesMayBeNothing();
         Checks.end("PeopleEdgesTest");
     }
@@ -235,7 +236,7 @@ final class PeopleEdgesTest {
         Checks.equal("the first machine takes the next", m.machine(0, 0), 1);
     }
 
-    /** "the one with the greatest level, of several the lowest". */
+    /** "the one with the greatest level, of several the lowest": whoever costs less. */
     private static void theGreatestLevelAndThenTheLowestNumber() {
         int[][] levels = {{1, 1, 1}, {1, 2, 2}, {2, 1, 3}, {3, 3, 3}, {0, 0, 1}, {0, 1, 0}, {2, 3, 3}, {3, 1, 3}};
         int[] due = {0, 1, 2, 0, 2, 1, 1, 0};
@@ -243,7 +244,7 @@ final class PeopleEdgesTest {
             Millrace m = Shop.withMade(1);
             Shop.addMachine(m, 1);
             for (int person = 0; person < 3; person++) {
-                m.addPerson(0, 0, 24);
+                m.addPerson(9 - 4 * person, 0, 24);
                 m.setLevel(person, 0, levels[i][person]);
                 m.setLevel(person, 1, 3 - levels[i][person]);
             }
@@ -303,6 +304,22 @@ final class PeopleEdgesTest {
         m.make(2, 1, 0);
         m.run(1);
         Checks.equal("what was recalled was its last kind all the same", m.machine(0, 1), 1);
+    }
+
+    /** "if the machine did another kind last": not for another operation of the same kind, though of another class. */
+    private static void noSettingUpForAnotherOperation() {
+        Millrace m = new Millrace();
+        m.addOperation(0, 0, 0, 2);
+        m.addOperation(0, 1, 1, 2);
+        m.addMachine(3, 4, 0, 50, 1, -1);
+        Shop.addPerson(m, 1);
+        m.make(0, 1, 0);
+        m.run(1);
+        Checks.equal("set up for the kind", m.machine(0, 1), 6);
+        m.run(6);
+        Checks.equal("the second operation", m.batch(0, 4), 1);
+        Checks.equal("is begun in the hour in which the first is done", m.batch(0, 3), 2);
+        Checks.equal("without setting up", m.machine(0, 1), 2);
     }
 
     /** "cost: 0 to 9 for each hour"; "wage: 0 to 9 for each hour that is worked". */

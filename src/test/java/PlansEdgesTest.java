@@ -112,6 +112,18 @@ final class PlansEdgesTest {
         m.run(30);
         m.stand(true);
         takes("whatever is there, comes, or is made", m, 3, 9);
+        Millrace stocked = new Millrace();
+        stocked.setBought(0, 1, 4);
+        stocked.addLine(1, 0, 1, -1);
+        stocked.addOperation(1, 0, 0, 5);
+        Shop.addMachine(stocked, 1);
+        Shop.addPerson(stocked, 3);
+        stocked.buy(0, 9);
+        stocked.make(1, 2, 0);
+        stocked.run(9);
+        Checks.equal("both are in store", stocked.store(0, 0) * 10 + stocked.store(1, 0), 72);
+        takes("whatever is in store of the kind itself", stocked, 1, 9);
+        takes("whatever is in store of a bought one", stocked, 0, 4);
     }
 
     /** The hours 0 and 2000, and the due hours 0 and 999. */

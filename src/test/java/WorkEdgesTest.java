@@ -10,6 +10,7 @@ final class WorkEdgesTest {
         whatIsDoneIsThereInTheSameHour();
         roomThatIsMadeLateIsForTheNextHour();
         standingStillIsNothingButTime();
+        onlyHoursStandStill();
         theNextQueueHasRoomOrNot();
         theNextQueueMayBeItsOwn();
         theStoreHasRoomForAllOrNot();
@@ -18,11 +19,13 @@ final class WorkEdgesTest {
         whatStaysHoldsMachineAndPerson();
         whoIsFreedGoesOnInTheSameHour();
         theGreatestPriorityAndThenTheLowestNumber();
+        theFirstMachineChoosesFirst();
         aFrozenBatchIsNotTaken();
         exactlyEnoughPartsAreEnough();
         promisedPartsAreNotThere();
         exactlyEnoughStandsIn();
         everyLineMustBeThere();
+        linesOfTheSameKindAddUp();
         theSecondOperationTakesNoParts();
         asManyPartsAsThereCanBe();
         whatWasAskedForIsStillThere();
@@ -160,6 +163,37 @@ final class WorkEdgesTest {
         Checks.equal("it came", m.batch(3, 9), 44);
         m.run(1);
         Checks.equal("the repair is over in its third hour", m.machine(0, 5), 0);
+    }
+
+    /** Standing still, and the last hour, refuse no call but those of hours beyond it. */
+    private static void onlyHoursStandStill() {
+        for (int way = 0; way < 4; way++) {
+            Millrace m = Shop.withMade(1);
+            Shop.stocked(m, 0, 5);
+            m.stand((way & 1) != 0);
+            Shop.pass(m, (way & 2) != 0 ? 1999 : 0);
+            m.setBought(2, 1, 1);
+            Checks.equal("a line", m.addLine(3, 0, 1, -1), 1);
+            Checks.equal("an operation", m.addOperation(3, 0, 0, 1), 1);
+            Checks.equal("the store before", m.setStore(0, 7), 20);
+            Checks.equal("the queue before", m.setQueue(0, 8), 9);
+            Checks.equal("a machine", Shop.addMachine(m, 1), 0);
+            Checks.equal("a person", m.addPerson(1, 0, 24), 0);
+            Checks.equal("the level before", m.setLevel(0, 0, 1), 0);
+            Checks.equal("a batch that comes", m.buy(0, 2), 1);
+            Checks.equal("it comes later", m.late(1, 3), m.hour() + 3);
+            Checks.equal("a batch that waits", m.make(1, 4, 2), 2);
+            Checks.isTrue("it was not frozen", !m.rank(2, 3, false));
+            Checks.equal("split off", m.split(2, 1), 3);
+            Checks.equal("joined again", m.join(2, 3), 4);
+            Checks.equal("an order", m.order(0, 2, 0), 0);
+            Checks.equal("promised to it", m.promise(0), 2);
+            Checks.equal("shipped for it", m.ship(0), 5);
+            Checks.equal("nothing is against it", m.why(4, 0), 0);
+            Checks.equal("what it takes", m.earliest(1), m.hour() + 1);
+            Checks.equal("recalled", m.recall(4), 1);
+            Checks.equal("in the factory", m.ledger(2), 50);
+        }
     }
 
     /** "into the queue of its next operation, if there is room": for none, one or two that wait there already. */
@@ -311,6 +345,22 @@ final class WorkEdgesTest {
         }
     }
 
+    /** Machines choose, by rising numbers: so whoever the first one needs is not there for a greater priority. */
+    private static void theFirstMachineChoosesFirst() {
+        Millrace m = new Millrace();
+        m.addOperation(0, 0, 0, 1);
+        m.addOperation(1, 1, 0, 1);
+        Shop.addMachine(m, 1);
+        Shop.addMachine(m, 2);
+        Shop.addPerson(m, 1);
+        m.make(0, 1, 0);
+        m.make(1, 1, 9);
+        m.run(1);
+        Checks.equal("the first machine has what it can do", m.machine(0, 0), 0);
+        Checks.equal("no one is left for the second one", m.machine(1, 0), -1);
+        Checks.equal("which is why", m.why(1, 1), 5);
+    }
+
     private static void aFrozenBatchIsNotTaken() {
         Millrace m = Shop.working(1);
         m.make(1, 1, 0);
@@ -406,6 +456,44 @@ final class WorkEdgesTest {
             Checks.equal("parents", m.batch(3, 8), lacking == 3 ? 3 : 0);
             int left = m.store(0, 0) + m.store(1, 0) + m.store(2, 0);
             Checks.equal("nothing is taken, or all", left, lacking == 3 ? 0 : 11);
+        }
+    }
+
+    /** "lines one after the other": 3 lines of the same kind, and the third one of what stands in. */
+    private static void linesOfTheSameKindAddUp() {
+        for (int parts = 7; parts <= 9; parts++) {
+            Millrace m = Shop.withBought();
+            m.addLine(1, 0, 1, -1);
+            m.addLine(1, 0, 2, -1);
+            m.addLine(1, 0, 1, -1);
+            m.addOperation(1, 0, 0, 1);
+            Shop.addMachine(m, 1);
+            Shop.addPerson(m, 1);
+            Shop.stocked(m, 0, parts);
+            m.make(1, 2, 0);
+            Checks.equal("why, with " + parts + " of 2, 4 and 2", m.why(1, 0), parts < 8 ? NO_PARTS : 0);
+            m.run(1);
+            Checks.equal("left of " + parts, m.store(0, 0), parts < 8 ? parts : parts - 8);
+            Checks.equal("its cost", m.batch(1, 2), parts < 8 ? 0 : 80);
+        }
+        for (int others = 1; others <= 3; others++) {
+            Millrace m = new Millrace();
+            m.setBought(0, 1, 0);
+            m.setBought(1, 5, 0);
+            for (int i = 0; i < 3; i++) {
+                m.addLine(2, 0, 1, 1);
+            }
+            m.addOperation(2, 0, 0, 1);
+            Shop.addMachine(m, 1);
+            Shop.addPerson(m, 1);
+            m.buy(0, 5);
+            m.buy(1, others);
+            m.make(2, 2, 0);
+            m.run(1);
+            Checks.equal("the third line takes 2 of " + others, m.store(1, 0), others < 2 ? others : others - 2);
+            Checks.equal("the first two take 4 of 5", m.store(0, 0), others < 2 ? 5 : 1);
+            Checks.equal("parents", m.batch(2, 8), others < 2 ? 0 : 2);
+            Checks.equal("their cost", m.batch(2, 2), others < 2 ? 0 : 14);
         }
     }
 
