@@ -362,5 +362,17 @@ final class BatchesEdgesTest {
         m.setStore(1, 60);
         m.run(1);
         Checks.equal("room for 60", m.store(1, 0), 60);
+        Millrace parts = Shop.working(1);
+        parts.addLine(2, 0, 1, -1);
+        parts.addOperation(2, 0, 0, 1);
+        parts.setStore(0, 40);
+        for (int i = 0; i < 2; i++) {
+            parts.buy(0, 20);
+            parts.make(2, 20, 0);
+        }
+        parts.join(1, 3);
+        parts.run(1);
+        Checks.equal("40 pieces take 40 parts", parts.store(0, 0), 0);
+        Checks.equal("and their cost", parts.batch(4, 2), 400);
     }
 }

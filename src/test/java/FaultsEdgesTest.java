@@ -7,10 +7,12 @@ final class FaultsEdgesTest {
         theQuotaIsRoundedDown();
         theQuotaIsRoundedDownForTheGreatestLimit();
         batchAndOperationCount();
+        wearOfAllBatchesCounts();
         aFaultIsDrawnWhenTheOperationIsDone();
         aFaultIsFoundTwoOperationsLaterOrAtTheLast();
         ofSeveralFaultsTheFirstOne();
         whatWasSentBackOnceIsScrapped();
+        whatGoesBackOrIsScrappedLeavesItsMachine();
         whatIsJoinedHasTheFaultsOfBoth();
         theQueueOfTheFaultHasRoomOrNot();
         wearAtTheLimitNeedsARepair();
@@ -109,6 +111,23 @@ final class FaultsEdgesTest {
         Checks.equal("batch 0, operation 3: 15 more", faultsOf(0, 3), "...#..##..#");
         Checks.equal("batch 59, operation 0: 413 more", faultsOf(59, 0), "..#...#..##");
         Checks.equal("batch 2, operation 2: 24 more", faultsOf(2, 2), "#..##..#...");
+    }
+
+    /** "4 times the wear": of all that the machine did since its last repair, and not of this batch alone. */
+    private static void wearOfAllBatchesCounts() {
+        Millrace m = Shop.withMade(7);
+        m.addOperation(2, 0, 0, 1);
+        m.addMachine(1, 0, 0, 9, 1, -1);
+        Shop.addPerson(m, 1);
+        m.run(5);
+        m.make(1, 1, 9);
+        m.make(2, 1, 0);
+        m.run(8);
+        Checks.equal("done in the hour 12, 3 is not less than 28 by 9", m.batch(0, 3), 3);
+        m.run(1);
+        Checks.equal("done in the hour 13, 2 is less than 32 by 9", m.batch(1, 7), 1);
+        m.run(1);
+        Checks.equal("done in the hour 14, 5 is not less than 36 by 9", m.batch(1, 3), 3);
     }
 
     /** "just once each time that an operation is done": in the hour of that, though the batch stays for more hours. */
@@ -236,6 +255,19 @@ final class FaultsEdgesTest {
         Checks.equal("the first one is done again, and the second", lastOperation(bad, 1), 1);
         Checks.equal("the fault of the second one is its second", bad.batch(0, 3), 5);
         Checks.equal("the machine of that is free", bad.machine(3, 0), -1);
+    }
+
+    /** "When it leaves, the person is free, and ... it needs a repair": wherever the batch goes. */
+    private static void whatGoesBackOrIsScrappedLeavesItsMachine() {
+        Millrace m = route(1, 0);
+        for (int round = 0; round < 2; round++) {
+            lastOperation(m, round);
+            Checks.equal("what it is", m.batch(0, 3), round == 0 ? 1 : 5);
+            Checks.equal("the machine is free", m.machine(0, 0), -1);
+            Checks.equal("the person, too", m.machineOf(0), -1);
+            Checks.equal("its repair has begun", m.machine(0, 5), 2);
+            Checks.equal("its wear is not over", m.machine(0, 3), 4);
+        }
     }
 
     /** "the faults of both, and was sent back if one was": joined one way and the other. */
@@ -376,6 +408,7 @@ final class FaultsEdgesTest {
         none.run(1);
         Checks.equal("with one it does", none.machine(0, 5), 2);
         Checks.equal("which is gone", none.batch(1, 3), 4);
+        Checks.equal("and no parent of what was made", none.batch(0, 8), 0);
         none.run(1);
         Checks.equal("and it is over", none.machine(0, 5), 0);
     }

@@ -4,6 +4,7 @@ final class RecallEdgesTest {
         eachStateIsScrappedOrNot();
         allThatWereLookedAtAreCounted();
         onlyWhatStemsFromItIsScrapped();
+        whatIsScrappedIsToldAsItWas();
         theStoreLosesOnlyWhatWasInIt();
         otherMachinesGoOn();
         aMachineAtItsLimitNeedsARepair();
@@ -77,6 +78,33 @@ final class RecallEdgesTest {
             Checks.equal("then the state of " + batch, m.batch(batch, 3), due[batch]);
         }
         Checks.equal("the first and what is left of it", m.recall(0), 2);
+    }
+
+    /** A recall makes it a scrapped one, and nothing else of it is changed: pieces, cost, operation, parents. */
+    private static void whatIsScrappedIsToldAsItWas() {
+        for (int hours = 1; hours <= 5; hours++) {
+            Millrace m = Shop.withBought();
+            m.addLine(1, 0, 1, -1);
+            m.addOperation(1, 0, 0, 1);
+            m.addOperation(1, 1, 0, 2);
+            m.addMachine(1, 0, 5, 50, 1, -1);
+            m.addMachine(2, 0, 3, 50, 1, -1);
+            Shop.addPerson(m, 1);
+            m.buy(0, 2);
+            m.make(1, 2, 7);
+            m.run(hours);
+            int[] before = new int[10];
+            for (int what = 0; what < before.length; what++) {
+                before[what] = m.batch(1, what);
+            }
+            Checks.equal("what it is behind " + hours + " hours", before[3], hours < 4 ? 2 : 3);
+            Checks.equal("scrapped by that", m.recall(1), 1);
+            for (int what = 0; what < before.length; what++) {
+                Checks.equal(hours + " hours, then " + what, m.batch(1, what), what == 3 ? 5 : before[what]);
+            }
+            Checks.equal("its parent", m.parent(1, 0), 0);
+            Checks.equal("its origin", m.origin(1, 0), 0);
+        }
     }
 
     /** What came, waited or was on a machine was not in the store, and takes nothing out of it. */

@@ -7,6 +7,8 @@ final class ViewsEdgesTest {
         aParentAtEachPlace();
         anOriginAtEachPlace();
         anOriginIsToldOnce();
+        originsAndFamiliesGoAllTheWay();
+        theLastNumbersAreTold();
         aBatchInEachPlaceOfAQueue();
         queuesOfAllClasses();
         theOperationThatIsTold();
@@ -129,6 +131,58 @@ final class ViewsEdgesTest {
         Checks.equal("once", m.origin(6, 1), -1);
     }
 
+    /** "by parents, their parents, and so on": each batch split off the one before; and the recall of the first. */
+    private static void originsAndFamiliesGoAllTheWay() {
+        Millrace m = Shop.withBought();
+        m.addLine(1, 0, 1, -1);
+        m.addOperation(1, 0, 0, 1);
+        m.addOperation(1, 1, 0, 1);
+        m.setQueue(1, 60);
+        Shop.addMachine(m, 1);
+        Shop.addPerson(m, 1);
+        Shop.stocked(m, 0, 20);
+        m.make(1, 20, 0);
+        m.run(2);
+        for (int batch = 1; batch < 20; batch++) {
+            m.split(batch, 20 - batch);
+        }
+        for (int batch = 1; batch <= 20; batch++) {
+            Checks.equal("the parent of " + batch, m.parent(batch, 0), batch - 1);
+            Checks.equal("the origin of " + batch, m.origin(batch, 0), 0);
+            Checks.equal("the only one of " + batch, m.origin(batch, 1), -1);
+        }
+        Checks.equal("all that stems from the tenth", m.recall(10), 11);
+        Checks.equal("all that stems from the bought one, which is gone", m.recall(0), 9);
+    }
+
+    /** Batches 57 to 59, of which the last is the others joined, or bought and shipped. */
+    private static void theLastNumbersAreTold() {
+        Millrace m = Shop.withMade(1);
+        Shop.fill(m, 57);
+        m.make(1, 1, 0);
+        m.make(1, 1, 0);
+        m.join(57, 58);
+        Checks.equal("the lower parent", m.parent(59, 0), 57);
+        Checks.equal("the higher parent", m.parent(59, 1), 58);
+        Checks.equal("made of none that was bought", m.origin(59, 0), -1);
+        Checks.equal("the last of the queue", m.queued(0, 0), 59);
+        Checks.equal("recalled by its parent", m.recall(58), 1);
+        Millrace shipped = Shop.withBought();
+        Shop.fill(shipped, 57);
+        shipped.buy(0, 1);
+        Shop.stocked(shipped, 0, 1);
+        shipped.order(0, 2, 0);
+        shipped.promise(0);
+        Checks.equal("shipped", shipped.ship(0), 59);
+        for (int place = 0; place < 2; place++) {
+            Checks.equal("a parent", shipped.parent(59, place), 57 + place);
+            Checks.equal("an origin", shipped.origin(59, place), 57 + place);
+        }
+        Checks.equal("no third one", shipped.origin(59, 2), -1);
+        Checks.equal("one that comes is its own", shipped.origin(56, 0), 56);
+        Checks.equal("recalled by its origin", shipped.recall(58), 100);
+    }
+
     /** "by falling priorities, then by rising numbers"; "place: 0 for the first one"; "-1 if there are not so many". */
     private static void aBatchInEachPlaceOfAQueue() {
         Millrace m = Shop.withMade(1);
@@ -218,6 +272,20 @@ final class ViewsEdgesTest {
         Checks.equal("shipped, of a bought kind", m.batch(4, 9), -1);
         Checks.equal("shipped, of a made kind", m.batch(5, 9), -1);
         Checks.equal("gone, it came when it came", m.batch(3, 9), 0);
+        Millrace later = new Millrace();
+        later.setBought(0, 1, 2);
+        later.run(3);
+        later.buy(0, 1);
+        later.buy(0, 1);
+        later.run(4);
+        later.order(0, 1, 0);
+        later.promise(0);
+        later.ship(0);
+        later.recall(1);
+        Checks.equal("gone", later.batch(0, 3), 4);
+        Checks.equal("the hour at which it came first", later.batch(0, 9), 5);
+        Checks.equal("scrapped", later.batch(1, 3), 5);
+        Checks.equal("the hour at which it came first", later.batch(1, 9), 5);
     }
 
     private static void machine(String what, Millrace m, int... due) {

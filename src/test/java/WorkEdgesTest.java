@@ -23,6 +23,7 @@ final class WorkEdgesTest {
         aFrozenBatchIsNotTaken();
         exactlyEnoughPartsAreEnough();
         promisedPartsAreNotThere();
+        promisedPiecesAreOfNoBatch();
         exactlyEnoughStandsIn();
         everyLineMustBeThere();
         linesOfTheSameKindAddUp();
@@ -414,6 +415,29 @@ final class WorkEdgesTest {
             Checks.equal("left", m.store(0, 0), promised == 1 ? 1 : 7);
             Checks.equal("promised", m.store(0, 1), promised);
         }
+    }
+
+    /** "by rising numbers, only what is not promised": pieces are promised, and not those of this batch or that. */
+    private static void promisedPiecesAreOfNoBatch() {
+        Millrace m = Shop.withMade(1);
+        m.addLine(2, 0, 1, -1);
+        m.addOperation(2, 0, 0, 1);
+        m.addMachine(1, 0, 0, 1, 1, 0);
+        Shop.addPerson(m, 1);
+        Shop.stocked(m, 0, 2);
+        m.order(0, 2, 0);
+        Checks.equal("promised when only the first batch is there", m.promise(0), 2);
+        Shop.stocked(m, 0, 3);
+        m.make(2, 1, 0);
+        m.run(1);
+        Checks.equal("a batch takes of the first one", m.parent(2, 0), 0);
+        Checks.equal("and of no other", m.parent(2, 1), -1);
+        m.run(1);
+        Checks.equal("a repair has begun", m.machine(0, 5), 2);
+        Checks.equal("it took the other piece of the first one", m.batch(0, 3), 4);
+        m.ship(0);
+        Checks.equal("what is shipped is of the second one", m.parent(3, 0), 1);
+        Checks.equal("of which 1 piece is left", m.batch(1, 1), 1);
     }
 
     /** "or, if these are not enough, all of the one that stands in". */
