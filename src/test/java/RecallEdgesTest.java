@@ -98,6 +98,7 @@ final class RecallEdgesTest {
                 before[what] = m.batch(1, what);
             }
             Checks.equal("what it is behind " + hours + " hours", before[3], hours < 4 ? 2 : 3);
+            Checks.equal("its priority, on a machine and in store", before[5], 7);
             Checks.equal("scrapped by that", m.recall(1), 1);
             for (int what = 0; what < before.length; what++) {
                 Checks.equal(hours + " hours, then " + what, m.batch(1, what), what == 3 ? 5 : before[what]);

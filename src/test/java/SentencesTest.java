@@ -18,7 +18,7 @@ final class SentencesTest {
                 look(line);
             }
         }
-        Checks.isTrue("the table has rows", rows > 100);
+        Checks.isTrue("the table has rows", rows > 300);
         Checks.end("SentencesTest");
     }
 
