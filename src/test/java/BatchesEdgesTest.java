@@ -362,6 +362,13 @@ final class BatchesEdgesTest {
         m.setStore(1, 60);
         m.run(1);
         Checks.equal("room for 60", m.store(1, 0), 60);
+        Millrace many = Shop.withMade(1);
+        many.make(1, 20, 0);
+        for (int batch = 1; batch < 21; batch += 2) {
+            many.make(1, 20, 0);
+            many.join(batch - 1, batch);
+        }
+        Checks.equal("220 pieces", many.batch(20, 1), 220);
         Millrace parts = Shop.working(1);
         parts.addLine(2, 0, 1, -1);
         parts.addOperation(2, 0, 0, 1);

@@ -198,6 +198,7 @@ final class LimitsTest {
         m.run(1);
         Checks.equal("99 pieces", m.store(0, 0), 99);
         Checks.equal("the next one has no room", m.batch(7, 3), 0);
+        Checks.equal("more can be ordered all the same", m.buy(0, 20), 8);
     }
 
     /** "each class has a queue of a size, 9 batches at first". */

@@ -164,6 +164,7 @@ final class PeopleEdgesTest {
         Checks.equal("back at the skill 2", m.machine(0, 0), 1);
         m.setLevel(0, 3, 2);
         m.setLevel(0, 1, 2);
+        m.setLevel(0, 0, 0);
         m.run(1);
         Checks.equal("8 hours at the skill 2, whatever was set for others", m.level(0, 2), 3);
         Checks.equal("none at the skill 3", m.level(0, 3), 2);
